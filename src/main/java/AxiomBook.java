@@ -410,19 +410,18 @@ public final class AxiomBook {
     }
 
     /**
-     * Where the names of symbols and statements stand in a text. A symbol's id is its number, a statement's
-     * MAX_SYMBOLS more: they share one table, for no name may be both.
+     * A text, and where the names of symbols and statements stand in it. A symbol's id is its number, a
+     * statement's MAX_SYMBOLS more: they share one table, for no name may be both.
      */
     private static final class Names {
         private static final int HEADS = 256;
-        private final byte[] text;
+        final byte[] text = new byte[MAX_TEXT];
         private final int[] heads = new int[HEADS];
         private final int[] nexts = new int[MAX_NAMES];
         private final int[] starts = new int[MAX_NAMES];
         private final int[] lengths = new int[MAX_NAMES];
 
-        Names(byte[] text) {
-            this.text = text;
+        Names() {
             Arrays.fill(heads, NONE);
         }
 
@@ -478,9 +477,9 @@ public final class AxiomBook {
 
     /** A text and what was read from it. */
     private static final class Book {
-        final byte[] text = new byte[MAX_TEXT];
+        final Names names = new Names();
+        final byte[] text = names.text;
         int length;
-        final Names names = new Names(text);
         int symbols;
         final byte[] variables = new byte[MAX_SYMBOLS];
         int statements;
