@@ -14,6 +14,7 @@ public final class BookTest {
         printing(due);
         longPrints(due);
         finding(due);
+        pairsOfBlocks(due);
         due.end();
     }
 
@@ -91,6 +92,21 @@ public final class BookTest {
         due.is("frame(6, -1, 0)", due.x.frame(6, -1, 0), -1);
         due.is("frame(12, 0, 0)", due.x.frame(12, 0, 0), -1);
         due.is("frame(-1, 0, 0)", due.x.frame(-1, 0, 0), -1);
+    }
+
+    private static void pairsOfBlocks(Due due) {
+        due.book("$c t $. $v a b c d $. fa $f t a $. fb $f t b $. fc $f t c $. fd $f t d $. ${ $d c d $. ${ $d a b $. "
+            + "x4 $a t a b c d $. $} x5 $a t a b c d $. ${ $d d a c $. x6 $a t a b c d $. $} x7 $a t a b c d $. $} "
+            + "x8 $a t a b c d $.", 9);
+        frame(due, 4, 1, 1, 3);
+        frame(due, 4, 2, 2, 4);
+        frame(due, 5, 1, 3);
+        frame(due, 5, 2, 4);
+        frame(due, 6, 1, 1, 1, 3);
+        frame(due, 6, 2, 3, 4, 4);
+        frame(due, 7, 1, 3);
+        frame(due, 7, 2, 4);
+        frame(due, 8, 1);
     }
 
     private static void printed(Due due, int k, String text) {

@@ -125,6 +125,12 @@ public final class CheckTest {
             "$d c e $. n $e | e $. p $p | . $= tc tc te n d2 d3 $.", 0, 6);
         due.check(d + "${ $d a b $. m $e | b $. d2 $a | a $. $} ${ m3 $e | a $. d3 $a | . $. $} ",
             "n $e | e $. p $p | . $= tc tc te n d2 d3 $.", -107, 4);
+        due.check(d + "${ $d a b c $. d3 $a | a b c $. $} ",
+            "$d a c $. $d b c $. $d a b $. p $p | a b c $= ta tb tc d3 $.", 0, 4);
+        due.check(d + "${ $d a b c $. d3 $a | a b c $. $} ",
+            "$d a c $. $d b c $. p $p | a b c $= ta tb tc d3 $.", -107, 3);
+        due.check(d, "$d a b $. p $p | a . a . a b $= ta ta ta pr pr tb d1 $.", 0, 7);
+        due.check(d, "$d a b $. p $p | a . a . c b $= ta ta tc pr pr tb d1 $.", -107, 6);
         // A hypothesis that does not fit is found before a pair.
         due.check(d + "${ $d a b $. m $e | b $. d2 $a | a $. $} ", "n $e | e $. p $p | c $= tc tb n d2 $.", -106, 3);
     }

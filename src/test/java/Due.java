@@ -2,6 +2,7 @@ import java.nio.charset.StandardCharsets;
 
 /** What the tests share: a book under test, and answers held against those that are due. */
 final class Due {
+    private static final int MAX_SHOWN = 20;
     AxiomBook x = new AxiomBook();
     private int wrong;
     private int asked;
@@ -9,16 +10,21 @@ final class Due {
     void is(String call, long got, long want) {
         asked++;
         if (got != want) {
-            wrong++;
-            System.out.println(call + " answered " + got + ", due is " + want);
+            show(call + " answered " + got + ", due is " + want);
         }
     }
 
     void is(String call, String got, String want) {
         asked++;
         if (!got.equals(want)) {
-            wrong++;
-            System.out.println(call + " answered '" + got + "', due is '" + want + "'");
+            show(call + " answered '" + got + "', due is '" + want + "'");
+        }
+    }
+
+    private void show(String line) {
+        wrong++;
+        if (wrong <= MAX_SHOWN) {
+            System.out.println(line);
         }
     }
 

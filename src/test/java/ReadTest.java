@@ -28,6 +28,10 @@ public final class ReadTest {
         due.book(T + "A-b_C.9 $a t $. - $a t $. . $a t $. _ $a t $.", 5);
         due.book("$c ! ~ ( ) ? @ $. x $a ! ~ ( ) ? @ $.", 1);
         due.book("$v a $. $v b $. $d a b $. $d b a $. $d a b $.", 0);
+        due.book("$c t $. AZ-az.09_ $a t $.", 1);
+        due.book("$v a $. $c t $. f $f t a $. x $a t a $.", 2);
+        due.book(T + "x $a t $. fb $f t b $. y $a t b $.", 4);
+        due.is("kind of fb", due.x.statement(2, 0), 0);
     }
 
     private static void wrongBytes(Due due) {
