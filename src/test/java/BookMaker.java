@@ -61,6 +61,46 @@ final class BookMaker {
         return chance(0.35) ? spoil(text.toString()) : text.toString();
     }
 
+    /** A book with one long compressed proof, which has many steps that are like one another. */
+    String makeBig(int leaves) {
+        StringBuilder big = new StringBuilder("$c t $. $v a b $. fa $f t a $. fb $f t b $. y $a t a b $. u $a t a $. ");
+        StringBuilder list = new StringBuilder("( y u ");
+        for (int i = 0; i < leaves; i++) {
+            big.append('k').append(i).append(" $a t $. ");
+            list.append('k').append(i).append(' ');
+        }
+        StringBuilder row = new StringBuilder();
+        List<Integer> sizes = new ArrayList<>();
+        List<Integer> marks = new ArrayList<>();
+        int top = 0;
+        for (int steps = 0; steps + sizes.size() < 990; steps++) {
+            int open = sizes.size();
+            if (open >= 2 && (open > 60 || chance(0.4))) {
+                row.append('A');
+                top = sizes.remove(open - 1) + sizes.remove(open - 2) + 1;
+            } else if (open >= 1 && chance(0.2)) {
+                row.append('B');
+                top = sizes.remove(open - 1) + 1;
+            } else if (!marks.isEmpty() && chance(0.1)) {
+                int mark = random.nextInt(marks.size());
+                row.append(letters(leaves + 3 + mark));
+                top = marks.get(mark);
+            } else {
+                row.append(letters(3 + random.nextInt(leaves)));
+                top = 1;
+            }
+            sizes.add(top);
+            if (top < 30 && marks.size() < 200 && chance(0.05)) {
+                row.append('Z');
+                marks.add(top);
+            }
+        }
+        for (int left = sizes.size(); left > 1; left--) {
+            row.append('A');
+        }
+        return big + "p $p t $= " + list + ") " + row + " $.";
+    }
+
     private void addItem() {
         double what = random.nextDouble();
         if (what < 0.10 && depth < 5) {

@@ -15,6 +15,7 @@ public final class BookTest {
         longPrints(due);
         finding(due);
         pairsOfBlocks(due);
+        nearLabels(due);
         due.end();
     }
 
@@ -92,6 +93,25 @@ public final class BookTest {
         due.is("frame(6, -1, 0)", due.x.frame(6, -1, 0), -1);
         due.is("frame(12, 0, 0)", due.x.frame(12, 0, 0), -1);
         due.is("frame(-1, 0, 0)", due.x.frame(-1, 0, 0), -1);
+    }
+
+    /** Labels that differ in one byte alone are told from one another. */
+    private static void nearLabels(Due due) {
+        StringBuilder text = new StringBuilder("$c t $. ");
+        for (int i = 0; i < 180; i++) {
+            text.append(label(i)).append(" $a t $. ");
+        }
+        due.book(text.toString(), 180);
+        for (int i = 0; i < 180; i++) {
+            found(due, label(i), i);
+            for (char c = '!'; c <= '~'; c++) {
+                found(due, c + label(i).substring(1), c == label(i).charAt(0) ? i : -2);
+            }
+        }
+    }
+
+    private static String label(int i) {
+        return "q" + (char) ('a' + i % 20) + (char) ('A' + i / 20);
     }
 
     private static void pairsOfBlocks(Due due) {

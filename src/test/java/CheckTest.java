@@ -131,8 +131,28 @@ public final class CheckTest {
             "$d a c $. $d b c $. p $p | a b c $= ta tb tc d3 $.", -107, 3);
         due.check(d, "$d a b $. p $p | a . a . a b $= ta ta ta pr pr tb d1 $.", 0, 7);
         due.check(d, "$d a b $. p $p | a . a . c b $= ta ta tc pr pr tb d1 $.", -107, 6);
+        farVariables(due);
         // A hypothesis that does not fit is found before a pair.
         due.check(d + "${ $d a b $. m $e | b $. d2 $a | a $. $} ", "n $e | e $. p $p | c $= tc tb n d2 $.", -106, 3);
+    }
+
+    /** Variables with numbers that are far apart, or 64 and 65 apart. */
+    private static void farVariables(Due due) {
+        int[] numbers = {2, 65, 66, 67, 130, 131, 194, 259, 299};
+        StringBuilder head = new StringBuilder("$c t | $. $v " + Due.row("v", 2, 300) + "$. ");
+        for (int n : numbers) {
+            head.append("f").append(n).append(" $f t v").append(n).append(" $. ");
+        }
+        head.append("${ $d v2 v65 $. d $a | v2 v65 $. $} ");
+        for (int n : numbers) {
+            for (int m : numbers) {
+                String rest = n == m ? "" : "$d v" + n + " v" + m + " $. ";
+                due.check(head.toString(), rest + "p $p | v" + n + " v" + m + " $= f" + n + " f" + m + " d $.",
+                    n == m ? -107 : 0, n == m ? 2 : 3);
+                due.check(head.toString(), "$d v66 v131 $. p $p | v" + n + " v" + m + " $= f" + n + " f" + m + " d $.",
+                    n + m == 197 && Math.abs(n - m) == 65 ? 0 : -107, n + m == 197 && Math.abs(n - m) == 65 ? 3 : 2);
+            }
+        }
     }
 
     private static void ends(Due due) {

@@ -36,6 +36,12 @@ public final class LimitTest {
         String inner = "$c " + Due.row("c", 0, 290) + "$. ${ $v " + Due.row("v", 290, 300) + "$. $} ";
         due.book(inner + "$v v299 v290 $.", 0);
         due.faultAt(inner + "$v v299 v290 #x $.", 7);
+        due.book(Due.times(500, "${ $v a $. $} "), 0);
+        due.fresh();
+        for (int i = 0; i < 4; i++) {
+            due.feed("$v " + Due.row("v", 0, 300) + "$.");
+            due.is("300 variables again", due.x.read(), 0);
+        }
     }
 
     private static void statements(Due due) {

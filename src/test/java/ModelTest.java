@@ -28,8 +28,24 @@ public final class ModelTest {
                 same(due, plain, where);
             }
         }
+        for (int n = 0; n < 40; n++) {
+            bigProof(due, new BookMaker(seed * 77 + n).makeBig(n % 2 == 0 ? 2 : 5));
+        }
         System.out.println("how often each answer of read() and check() came: " + SEEN);
         due.end();
+    }
+
+    private static void bigProof(Due due, String text) {
+        PlainBook plain = new PlainBook();
+        due.fresh();
+        due.feed(text);
+        plain.feed(text);
+        int k = due.x.read() - 1;
+        String where = " behind " + text;
+        due.is("read()" + where, k + 1, plain.read());
+        sameProof(due, plain, k, where);
+        due.is("check() of a big proof" + where, due.x.check(k), plain.check(k));
+        sameTelling(due, plain, k, where);
     }
 
     private static void same(Due due, PlainBook plain, String where) {

@@ -188,5 +188,13 @@ public final class ReadTest {
         due.is("an empty text", due.x.read(), 0);
         due.is("place", due.x.place(), 0);
         due.is("an empty book", due.x.count(0), 0);
+        due.feed("$v a b $.");
+        due.is("variables", due.x.read(), 0);
+        due.feed("$c a b $. $d a b $.");
+        due.is("constants that were variables in another book", due.x.read(), -6);
+        due.is("place", due.x.place(), 13);
+        due.feed("$c a b $. f $f a b $.");
+        due.is("constants that were variables in another book", due.x.read(), -6);
+        due.is("place", due.x.place(), 17);
     }
 }

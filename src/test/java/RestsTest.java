@@ -27,6 +27,7 @@ public final class RestsTest {
             due.is("rests(" + k + ", -1)", due.x.rests(k, -1), -1);
         }
         many(due);
+        farApart(due);
         due.end();
     }
 
@@ -38,6 +39,18 @@ public final class RestsTest {
         due.is("rests(" + k + ", -1)", due.x.rests(k, -1), -2);
         due.is("rests(" + k + ", great)", due.x.rests(k, Integer.MAX_VALUE), -2);
         due.is("rests(" + k + ", least)", due.x.rests(k, Integer.MIN_VALUE), -2);
+    }
+
+    private static void farApart(Due due) {
+        StringBuilder text = new StringBuilder("$c t $. ");
+        for (int i = 0; i < 195; i++) {
+            text.append('a').append(i).append(" $a t $. ");
+        }
+        due.book(text + "p $p t $= a64 $. q $p t $= a63 a127 $. r $p t $= a128 a194 $. s $p t $= q p $.", 199);
+        rests(due, 195, 64);
+        rests(due, 196, 63, 127);
+        rests(due, 197, 128, 194);
+        rests(due, 198, 63, 64, 127);
     }
 
     private static void many(Due due) {
