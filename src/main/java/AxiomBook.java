@@ -494,6 +494,9 @@ public final class AxiomBook {
         final Rows hypotheses = new Rows(MAX_STATEMENTS);
         final Rows distinct = new Rows(MAX_STATEMENTS);
         final Rows activePairs = new Rows(MAX_STATEMENTS);
+        final byte[] compressed = new byte[MAX_STATEMENTS];
+        // The number of the proof's token behind those that are labels.
+        final int[] labelEnds = new int[MAX_STATEMENTS];
         private final long[] axioms = new long[MAX_STATEMENTS * STATEMENT_WORDS];
 
         void clear() {
@@ -546,21 +549,15 @@ public final class AxiomBook {
             return position < length && text[position] > BLANK;
         }
 
-        boolean isCompressed(int k) {
-            return isJust(k, 0, '(');
-        }
-
-        /** The number of the token behind those that are labels. */
-        int labelsEnd(int k) {
+        void noteForm(int k) {
             int size = tokens.size(k);
-            if (isCompressed(k)) {
-                for (int i = 1; i < size; i++) {
-                    if (isJust(k, i, ')')) {
-                        return i;
-                    }
+            compressed[k] = (byte) (isJust(k, 0, '(') ? 1 : 0);
+            labelEnds[k] = size;
+            for (int i = size - 1; i > 0 && compressed[k] != 0; i--) {
+                if (isJust(k, i, ')')) {
+                    labelEnds[k] = i;
                 }
             }
-            return size;
         }
 
         /** Finds out on which axioms a statement rests, once and for all: those it names were noted before. */
@@ -569,8 +566,7 @@ public final class AxiomBook {
             for (int w = 0; w < STATEMENT_WORDS; w++) {
                 axioms[base + w] = 0L;
             }
-            int end = labelsEnd(k);
-            for (int i = 0; i < end; i++) {
+            for (int i = 0; i < labelEnds[k]; i++) {
                 int label = named.get(k, i);
                 if (label >= 0 && kinds[label] == AXIOM) {
                     axioms[base + label / WORD] |= 1L << (label % WORD);
@@ -899,7 +895,26 @@ public final class AxiomBook {
             state = OUTSIDE;
             int fault = 0;
             for (int n = 0; n <= MAX_TOKENS && fault == 0 && scanner.advance(); n++) {
-                fault = take();
+                int word = scanner.word();
+                switch (state) {
+                    case OUTSIDE:
+                        fault = word == Scanner.PLAIN ? takeLabel() : takeOutside(word);
+                        break;
+                    case LABELLED:
+                        fault = takeKind(word);
+                        break;
+                    case DECLARING:
+                        fault = takeDeclared(word);
+                        break;
+                    case SEPARATING:
+                        fault = takeSeparated(word);
+                        break;
+                    case STATING:
+                        fault = word == Scanner.PLAIN ? takeSymbol() : takeEnd(word);
+                        break;
+                    default:
+                        fault = takeProofToken(word);
+                }
                 if (state == ENDED) {
                     endStatement();
                 }
@@ -909,24 +924,6 @@ public final class AxiomBook {
                 return fault != 0 ? fault : scanner.fault;
             }
             return state != OUTSIDE || scope.depth > 0 ? CUT_OFF : 0;
-        }
-
-        private int take() {
-            int word = scanner.word();
-            switch (state) {
-                case OUTSIDE:
-                    return word == Scanner.PLAIN ? takeLabel() : takeOutside(word);
-                case LABELLED:
-                    return takeKind(word);
-                case DECLARING:
-                    return takeDeclared(word);
-                case SEPARATING:
-                    return takeSeparated(word);
-                case STATING:
-                    return word == Scanner.PLAIN ? takeSymbol() : takeEnd(word);
-                default:
-                    return takeProofToken(word);
-            }
         }
 
         private int takeLabel() {
@@ -1116,6 +1113,7 @@ public final class AxiomBook {
             book.distinct.endRow();
             book.activePairs.endRow();
             if (kind == PROVABLE) {
+                book.noteForm(k);
                 book.noteAxioms(k);
             }
             book.statements++;
@@ -1160,7 +1158,11 @@ public final class AxiomBook {
             if (book.tokens.size(k) == 0) {
                 return NO_TOKEN;
             }
-            int found = book.isCompressed(k) ? decodeList() : decodeLabels();
+            boolean compressed = book.compressed[k] != 0;
+            int found = compressed ? decodeList() : decodeLabels();
+            if (found == 0 && compressed) {
+                found = decodeLetters();
+            }
             if (found == 0) {
                 at = steps;
             }
@@ -1174,7 +1176,7 @@ public final class AxiomBook {
                     return true;
                 }
             }
-            for (int i = book.labelsEnd(owner); i < size; i++) {
+            for (int i = book.labelEnds[owner]; i < size; i++) {
                 for (int p = book.tokens.get(owner, i); p < book.length && book.isInToken(p); p++) {
                     if (book.text[p] == '?') {
                         return true;
@@ -1213,7 +1215,7 @@ public final class AxiomBook {
 
         private int decodeList() {
             knowHypotheses();
-            int close = book.labelsEnd(owner);
+            int close = book.labelEnds[owner];
             for (int i = 1; i < close; i++) {
                 int label = book.named.get(owner, i);
                 if (!mayName(label) || isKnown[label] != 0) {
@@ -1221,10 +1223,7 @@ public final class AxiomBook {
                 }
                 know(label);
             }
-            if (close == book.tokens.size(owner)) {
-                return fail(WRONG_LETTERS, close);
-            }
-            return decodeLetters(close + 1);
+            return close == book.tokens.size(owner) ? fail(WRONG_LETTERS, close) : 0;
         }
 
         private void knowHypotheses() {
@@ -1242,13 +1241,13 @@ public final class AxiomBook {
             isKnown[label] = 1;
         }
 
-        private int decodeLetters(int firstToken) {
+        private int decodeLetters() {
             prefix = 0;
             inNumber = false;
             mayMark = false;
             int letters = 0;
             int size = book.tokens.size(owner);
-            for (int i = firstToken; i < size; i++) {
+            for (int i = book.labelEnds[owner] + 1; i < size; i++) {
                 for (int p = book.tokens.get(owner, i); p < book.length && book.isInToken(p); p++) {
                     int fault = takeLetter(book.text[p]);
                     if (fault != 0) {
@@ -1327,7 +1326,9 @@ public final class AxiomBook {
             notePartners(proof.owner);
             int end = Math.min(most, proof.steps);
             for (int i = 0; i < end; i++) {
-                int fault = runStep(proof.names[i]);
+                int name = proof.names[i];
+                boolean assertion = name >= 0 && book.kinds[name] >= AXIOM;
+                int fault = assertion ? apply(name) : push(name);
                 if (fault != 0) {
                     proof.at = i;
                     return fault;
@@ -1362,18 +1363,16 @@ public final class AxiomBook {
             partners[one * SYMBOL_WORDS + other / WORD] |= 1L << (other % WORD);
         }
 
-        private int runStep(int name) {
-            if (name < 0) {
-                return push(marks, -1 - name);
-            }
-            return book.kinds[name] >= AXIOM ? apply(name) : push(book.formulas, name);
-        }
-
-        private int push(Rows from, int row) {
+        /** Puts on what a hypothesis is, or what a marked step did. */
+        private int push(int name) {
             if (stack.rows == MAX_STACK) {
                 return TOO_GREAT;
             }
-            stack.addFrom(from, row, 0);
+            if (name < 0) {
+                stack.addFrom(marks, -1 - name, 0);
+            } else {
+                stack.addFrom(book.formulas, name, 0);
+            }
             stack.endRow();
             return 0;
         }
