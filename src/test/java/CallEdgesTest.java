@@ -254,7 +254,7 @@ public final class CallEdgesTest {
         due.is("its length", due.x.place(), 0);
     }
 
-    /** Promise 5: what is counted, from none on. */
+    /** Promise 5: symbols, statements, bytes and "things on the stack of the latest trace() (4; 0 without)". */
     private static void count(Due due) {
         due.of("Promise 5: symbols, statements, bytes in THE TEXT and in the OUT, things on the stack");
         due.book(TEXT, 7);
@@ -287,7 +287,7 @@ public final class CallEdgesTest {
         }
     }
 
-    /** Promise 6: its kind, symbols, HYPOTHESES, DISTINCT pairs "(of $f and $e 0 both)", tokens "(0 for others)". */
+    /** Promise 6: its kind, symbols, HYPOTHESES, DISTINCT pairs ("of $f and $e 0 both"), tokens ("0 for others"). */
     private static void statement(Due due) {
         due.of("Promise 6: of a statement its kind, symbols, blocks, HYPOTHESES, pairs, tokens");
         due.book(TEXT, 7);

@@ -150,7 +150,7 @@ public final class LimitTest {
 
     private static final String FOUR = "$d v0 v8 v16 $. $d v0 v9 $. ";
 
-    /** Terms: 7 "the 201st active pair (.. at the VARIABLE with which it comes". */
+    /** Terms: 7 "the 201st active pair", "at the VARIABLE with which it comes". */
     private static void pairs(Due due) {
         due.of("Terms: 7 the 201st active pair, at its VARIABLE");
         String most = pairs196();
@@ -193,7 +193,7 @@ public final class LimitTest {
         due.faultAt(most + "$c t $. " + FOUR + "$d v0 #t $.", 6);
     }
 
-    /** Terms: "THE TEXT has at most 8192 bytes", and so some 4096 tokens; none of them is passed over. */
+    /** Terms: THE TEXT "has at most 8192 bytes", and so some 4096 tokens; none of them is passed over. */
     private static void tokens(Due due) {
         due.of("Terms: a text full of tokens");
         due.fresh();

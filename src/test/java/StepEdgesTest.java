@@ -28,6 +28,7 @@ public final class StepEdgesTest {
         constantsAndNothingAreApart(due);
         pairsActiveAtTheProof(due);
         pairsOfTheAssertion(due);
+        assertionPutsItsSymbols(due);
         markedStepPutsWhatItDid(due);
         tooFew(due);
         notJustOne(due);
@@ -195,6 +196,18 @@ public final class StepEdgesTest {
         is(due, "${ $d a b $. $d c e $. d2 $a | a c $. $} ", "| a a", "ta ta d2", 0, 3);
         is(due, "${ d2 $a | a c $. $d a c $. $} ", "| a a", "ta ta d2", 0, 3);
         is(due, "${ $d a b $. d2 $a | a b $. $} ${ d4 $a | a b $. $} ", "| a a", "ta ta d4", 0, 3);
+    }
+
+    /** Terms: "Then the assertion's symbols, with that for its variables, are put on the stack." */
+    private static void assertionPutsItsSymbols(Due due) {
+        due.of("Terms: the assertion's symbols, with that for its variables, are put on the stack");
+        traced(due, "t a", "k", 0, "t o");
+        traced(due, "t a", "em x4", 1, "t");
+        traced(due, "t a", "tb x1 x4", 2, "t o b o b o b o b");
+        traced(due, "t a", "tb ta pr", 2, "t b a");
+        // What stands for a variable is not looked at again: a and b change places at once.
+        traced(due, "t a", "tb ta pr ta tb pr pr", 6, "t b a a b");
+        traced(due, "t a", "k bo em bar s", 4, "| o");
     }
 
     /** Terms: "One that names a marked step puts on what that one did." */

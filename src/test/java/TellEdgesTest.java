@@ -20,6 +20,7 @@ public final class TellEdgesTest {
         compressedHypotheses(due);
         compressedLike(due);
         compressedNotLike(due);
+        compressedInOrder(due);
         compressedTakesNothing(due);
         compressedMarkOnlyIfTold(due);
         compressedMarksInOrder(due);
@@ -51,7 +52,7 @@ public final class TellEdgesTest {
         told(due, HEAD, statement, 1, text);
     }
 
-    /** Promise 14: "form = 0: written out, labels with a 32 between". */
+    /** Promise 14: "is told, in the OUT: how many bytes. form = 0: written out, labels with a 32 between". */
     private static void writtenOut(Due due) {
         due.of("Promise 14: written out, labels with a 32 between");
         written(due, "p $p t a $= ta", "ta");
@@ -123,6 +124,15 @@ public final class TellEdgesTest {
         told(due, PLAIN, "p $p t $= em u em w j em w em u j j", 1, "( em u w j ) ABZACZDFEDD");
         told(due, PLAIN, "p $p t $= em em u j em u em j j", 1, "( em u j ) AABZCDACC");
         compressed(due, "p $p t a b b a $= ta tb y tb ta y y", "( y ) ABCBACC");
+    }
+
+    /** Promise 14: "any other one is those that it takes, in order, and then its number". */
+    private static void compressedInOrder(Due due) {
+        due.of("Promise 14: those that it takes, in order, and then its number");
+        told(due, PLAIN, "p $p t $= em u em j", 1, "( em u j ) ABAC");
+        told(due, PLAIN, "p $p t $= em em u j", 1, "( em u j ) AABC");
+        told(due, PLAIN, "p $p t $= em u em w j em w j", 1, "( em u w j ) ABACZDED");
+        compressed(due, "p $p t b o a $= tb ta x y", "( x y ) BACD");
     }
 
     /** Promise 14: "if it takes something": what takes nothing is told again, and has no Z. */

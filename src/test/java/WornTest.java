@@ -1,5 +1,5 @@
 /**
- * Promise 3: a book that was read "is the book", and "what was checked or told is gone": every sentence that has an edge
+ * Promise 3: what was read "is the book", and "What was checked or told is gone": every sentence that has an edge
  * is held against objects that were used before, too.
  */
 public final class WornTest {
